@@ -93,6 +93,11 @@ public final class BuyingTest {
         Due.due("none is shut by it", x.count(6), 63);
         x = withAll("n700 d000 d050", 2);
         Due.told(x, "shut(5, 1)", x.shut(5, 1), 1, 2);
+        x = withAll("n700 d030 d030 d000 d350", 4);
+        Due.told(x, "shut(5, 2): one by a greater number", x.shut(5, 2), 1, 8);
+        x = Due.in("n700 d050 d000 d050");
+        x.buy(2);
+        Due.told(x, "shut(5, 1), the last one BOUGHT alone", x.shut(5, 1), 1, 4);
     }
 
     private static void shutRefused() {

@@ -42,6 +42,9 @@ public final class ChancesTest {
         dueFraction(x, "odds(5, 7, 4) by the first one", x.odds(5, 7, 4), 2, 3);
         dueFraction(x, "odds(5, 10, 4) by either one", x.odds(5, 10, 4), 8, 9);
         Due.due("none is bricked up by it", x.count(6), 3);
+        x = Due.in("n700 d000 d050");
+        x.buy(1);
+        dueFraction(x, "odds(5, 1, 4), the last one BOUGHT alone", x.odds(5, 1, 4), 2, 3);
         x = withAll("n709 k050", 1);
         x.stay();
         dueFraction(x, "odds(5, 2, 6) of a BRICKED one in HOUR 1", x.odds(5, 2, 6), 0, 1);
@@ -84,6 +87,9 @@ public final class ChancesTest {
         dueFraction(x, "mid(5, 4)", x.mid(5, 4), 19, 3);
         x = Due.in("n700 d050");
         dueFraction(x, "mid(5, 6), none BOUGHT", x.mid(5, 6), 15, 1);
+        x = Due.in("n700 d000 d050");
+        x.buy(1);
+        dueFraction(x, "mid(5, 6), the last one BOUGHT alone", x.mid(5, 6), 8, 1);
     }
 
     private static void midRefused() {
@@ -129,6 +135,8 @@ public final class ChancesTest {
         Due.due("lots(1, 1), not OPEN", x.lots(1, 1), 0);
         x = withAll("n709 d000 d030", 1);
         Due.due("lots(1, 1), not BOUGHT", x.lots(1, 1), 0);
+        x = withAll("n709 d030", 1);
+        Due.due("lots(1, 1) of one", x.lots(1, 1), 3);
         x = withAll("n709 d030 d000 d000 d040", 4);
         Due.due("lots(1, 1) of four: DOOR 1", x.lots(1, 1), 0);
         Due.due("HOUR", x.count(3), 1);

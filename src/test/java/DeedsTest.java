@@ -186,6 +186,15 @@ public final class DeedsTest {
         Due.due("sell(0), BOUGHT, 40 DEEDS", x.sell(0), DoorSold.FULL);
         Due.due("set(2), BOUGHT, 40 DEEDS", x.set(2), DoorSold.FULL);
         dueNow(x, "what is refused changes nothing", 0, 38, 4, 40, 5);
+        x.undo(39);
+        Due.due("go(0) as the last DEED", x.go(0), 1);
+        x.undo(39);
+        Due.due("buy(3) as the last DEED", x.buy(3), 4);
+        x.undo(39);
+        Due.due("sell(0) as the last DEED", x.sell(0), 4);
+        x.undo(39);
+        Due.due("set(2) as the last DEED", x.set(2), 0);
+        Due.due("40 DEEDS", x.count(5), 40);
     }
 
     private static void undo() {

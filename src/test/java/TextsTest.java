@@ -7,6 +7,7 @@ public final class TextsTest {
         put();
         texts();
         faults();
+        faultsAtTheEnd();
         faultRefused();
         country();
         countryAnew();
@@ -100,8 +101,29 @@ public final class TextsTest {
         dueFault("n200d000d000d000d000d000d000d000", 28);
         dueFault("n200d000d000d000d000d000d000  d", 30);
         dueFault("n200d000d000d000d000d000d000x", 28);
+        dueFault("n2:0d009", 2);
+        dueFault("n20 d009", 3);
+        dueFault("n20d009", 3);
+        dueFault("n200009", 4);
+        dueFault("n200 009", 5);
+        dueFault("n200d00:", 7);
+        dueFault("n200d00/", 7);
         dueFault("n200\td000", 4);
         dueFault("n200" + (char) 228 + "000", 4);
+    }
+
+    /** What stood behind its end before is no part of a text, and a text of the greatest size ends, too. */
+    private static void faultsAtTheEnd() {
+        String whole = "n200d019";
+        DoorSold x = new DoorSold();
+        for (int n = whole.length(); n >= 0; n--) {
+            Due.write(x, 0, whole + "   ");
+            Due.write(x, 0, whole.substring(0, n));
+            Due.due("fault of its first " + n, x.fault(0), n == whole.length() ? DoorSold.NONE : n);
+            String late = " ".repeat(60 - n) + whole.substring(0, n);
+            dueFault(late, n == whole.length() ? DoorSold.NONE : 60);
+        }
+        dueFault("n200" + " ".repeat(56), 60);
     }
 
     private static void faultRefused() {
