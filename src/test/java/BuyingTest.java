@@ -12,12 +12,6 @@ public final class BuyingTest {
         Due.end();
     }
 
-    private static DoorSold withAll(String country, int doors) {
-        DoorSold x = Due.in(country);
-        for (int i = 0; i < doors; i++) x.buy(i);
-        return x;
-    }
-
     private static void cheapest() {
         DoorSold x = Due.in("n700 d059 u058 b502 s500 k039 d355");
         Due.told(x, "cheapest(5, 1)", x.cheapest(5, 1), 1, 4);
@@ -77,7 +71,7 @@ public final class BuyingTest {
     }
 
     private static void shut() {
-        DoorSold x = withAll("n700 d050 d030 d350 d050", 3);
+        DoorSold x = Due.owning("n700 d050 d030 d350 d050", 3);
         Due.told(x, "shut(5, 0)", x.shut(5, 0), 0, 0);
         Due.told(x, "shut(5, 1): 3 is not BOUGHT", x.shut(5, 1), 1, 1);
         Due.told(x, "shut(5, 2)", x.shut(5, 2), 2, 3);
@@ -86,14 +80,14 @@ public final class BuyingTest {
         Due.told(x, "shut(5, 15): the roads, asked() stays", x.shut(5, 15), DoorSold.NONE, 7);
         Due.told(x, "shut(0, 0)", x.shut(0, 0), DoorSold.NONE, 7);
         Due.told(x, "shut(3, 8)", x.shut(3, 8), 1, 2);
-        x = withAll("n700 d350 d030", 2);
+        x = Due.owning("n700 d350 d030", 2);
         Due.told(x, "shut(5, 2): either one, 0 first", x.shut(5, 2), 1, 1);
-        x = withAll("n700 d050 d050 d050 d050 d050 d050", 6);
+        x = Due.owning("n700 d050 d050 d050 d050 d050 d050", 6);
         Due.told(x, "shut(5, 14): all", x.shut(5, 14), 6, 63);
         Due.due("none is shut by it", x.count(6), 63);
-        x = withAll("n700 d000 d050", 2);
+        x = Due.owning("n700 d000 d050", 2);
         Due.told(x, "shut(5, 1)", x.shut(5, 1), 1, 2);
-        x = withAll("n700 d030 d030 d000 d350", 4);
+        x = Due.owning("n700 d030 d030 d000 d350", 4);
         Due.told(x, "shut(5, 2): one by a greater number", x.shut(5, 2), 1, 8);
         x = Due.in("n700 d050 d000 d050");
         x.buy(2);

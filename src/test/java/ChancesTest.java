@@ -13,12 +13,6 @@ public final class ChancesTest {
         Due.end();
     }
 
-    private static DoorSold withAll(String country, int doors) {
-        DoorSold x = Due.in(country);
-        for (int i = 0; i < doors; i++) x.buy(i);
-        return x;
-    }
-
     private static void dueFraction(DoorSold x, String call, int got, long upper, long lower) {
         Due.due(call, got, 1);
         Due.due(call + ", upper()", x.upper(), upper);
@@ -26,7 +20,7 @@ public final class ChancesTest {
     }
 
     private static void odds() {
-        DoorSold x = withAll("n700 d050 d050", 1);
+        DoorSold x = Due.owning("n700 d050 d050", 1);
         dueFraction(x, "odds(5, 1, 0)", x.odds(5, 1, 0), 1, 1);
         dueFraction(x, "odds(5, 1, 12)", x.odds(5, 1, 12), 0, 1);
         dueFraction(x, "odds(5, 1, 3)", x.odds(5, 1, 3), 3, 4);
@@ -37,7 +31,7 @@ public final class ChancesTest {
         x.buy(1);
         dueFraction(x, "odds(5, 1, 4) by two", x.odds(5, 1, 4), 8, 9);
         dueFraction(x, "odds(5, 30, 12)", x.odds(5, 30, 12), 1, 1);
-        x = withAll("n700 d030 d350", 2);
+        x = Due.owning("n700 d030 d350", 2);
         dueFraction(x, "odds(5, 2, 4) by one behind the other", x.odds(5, 2, 4), 4, 9);
         dueFraction(x, "odds(5, 7, 4) by the first one", x.odds(5, 7, 4), 2, 3);
         dueFraction(x, "odds(5, 10, 4) by either one", x.odds(5, 10, 4), 8, 9);
@@ -45,14 +39,14 @@ public final class ChancesTest {
         x = Due.in("n700 d000 d050");
         x.buy(1);
         dueFraction(x, "odds(5, 1, 4), the last one BOUGHT alone", x.odds(5, 1, 4), 2, 3);
-        x = withAll("n709 k050", 1);
+        x = Due.owning("n709 k050", 1);
         x.stay();
         dueFraction(x, "odds(5, 2, 6) of a BRICKED one in HOUR 1", x.odds(5, 2, 6), 0, 1);
         dueFraction(x, "odds(5, 3, 6) of a BRICKED one in HOUR 1", x.odds(5, 3, 6), 1, 2);
     }
 
     private static void oddsInSixDoors() {
-        DoorSold x = withAll("n700 d050 d050 d050 d050 d050 d050", 6);
+        DoorSold x = Due.owning("n700 d050 d050 d050 d050 d050 d050", 6);
         dueFraction(x, "odds(5, 1, 1)", x.odds(5, 1, 1), 2985983, 2985984);
         dueFraction(x, "odds(5, 1, 11)", x.odds(5, 1, 11), 2985984 - 1771561, 2985984);
         dueFraction(x, "odds(5, 1, 6)", x.odds(5, 1, 6), 63, 64);
@@ -74,7 +68,7 @@ public final class ChancesTest {
     }
 
     private static void mid() {
-        DoorSold x = withAll("n700 d050", 1);
+        DoorSold x = Due.owning("n700 d050", 1);
         dueFraction(x, "mid(5, 0)", x.mid(5, 0), 1, 1);
         dueFraction(x, "mid(5, 12)", x.mid(5, 12), 15, 1);
         dueFraction(x, "mid(5, 6)", x.mid(5, 6), 8, 1);
@@ -82,7 +76,7 @@ public final class ChancesTest {
         dueFraction(x, "mid(5, 1)", x.mid(5, 1), 13, 6);
         dueFraction(x, "mid(0, 5)", x.mid(0, 5), 0, 1);
         dueFraction(x, "mid(2, 5) by roads", x.mid(2, 5), 6, 1);
-        x = withAll("n700 d030 d350", 2);
+        x = Due.owning("n700 d030 d350", 2);
         // 4 of 9 both: 2, 2 the first: 7, 2 the second: 10, 1 none: 15; together 57
         dueFraction(x, "mid(5, 4)", x.mid(5, 4), 19, 3);
         x = Due.in("n700 d050");
@@ -122,28 +116,28 @@ public final class ChancesTest {
 
     /** By 8 and cut, the first number of seed 1 is 6033, the second one 22825724. */
     private static void lotsThroughDoors() {
-        DoorSold x = withAll("n709 d000 d030", 2);
+        DoorSold x = Due.owning("n709 d000 d030", 2);
         Due.due("lots(1, 1) through DOOR 1", x.lots(1, 1), 3);
         Due.due("HOUR", x.count(3), 1);
-        x = withAll("n709 d340 d030", 2);
+        x = Due.owning("n709 d340 d030", 2);
         Due.due("lots(2, 1) through 1, 0", x.lots(2, 1), 4);
         Due.due("HOUR", x.count(3), 2);
-        x = withAll("n709 d000 d130", 2);
+        x = Due.owning("n709 d000 d130", 2);
         Due.due("lots(1, 1), IN elsewhere", x.lots(1, 1), 0);
-        x = withAll("n709 d000 k030", 2);
+        x = Due.owning("n709 d000 k030", 2);
         x.stay();
         Due.due("lots(1, 1), not OPEN", x.lots(1, 1), 0);
-        x = withAll("n709 d000 d030", 1);
+        x = Due.owning("n709 d000 d030", 1);
         Due.due("lots(1, 1), not BOUGHT", x.lots(1, 1), 0);
-        x = withAll("n709 d030", 1);
+        x = Due.owning("n709 d030", 1);
         Due.due("lots(1, 1) of one", x.lots(1, 1), 3);
-        x = withAll("n709 d030 d000 d000 d040", 4);
+        x = Due.owning("n709 d030 d000 d000 d040", 4);
         Due.due("lots(1, 1) of four: DOOR 1", x.lots(1, 1), 0);
         Due.due("HOUR", x.count(3), 1);
     }
 
     private static void lotsAreDeeds() {
-        DoorSold x = withAll("n709 d340 d030", 2);
+        DoorSold x = Due.owning("n709 d340 d030", 2);
         long before = x.digest();
         x.lots(7, 1);
         Due.due("DEEDS", x.count(5), 9);

@@ -1,8 +1,6 @@
 /** Promises 29 and 30: fits, kinds. */
 public final class CluesTest {
     private static final int NOTHING = 1, UNLIKE = 3, SIZE = 5;
-    /** A door of each kind. */
-    private static final String ALL = "n640 d039 u145 b209 k354 s247 c125";
 
     public static void main(String[] args) {
         withoutClues();
@@ -25,7 +23,7 @@ public final class CluesTest {
     }
 
     private static void withoutClues() {
-        DoorSold x = Due.in(ALL);
+        DoorSold x = Due.in(Due.ALL_KINDS);
         for (int i = 0; i < 6; i++) {
             dueFits(x, i, 63, 63);
             dueKinds(x, i, 63);
@@ -33,7 +31,7 @@ public final class CluesTest {
     }
 
     private static void fits() {
-        DoorSold x = Due.in(ALL);
+        DoorSold x = Due.in(Due.ALL_KINDS);
         dueFits(x, 0, 1, 8, 99, 0, 3);
         dueFits(x, 0, 2, 0, 1, 1, 3);
         dueFits(x, 0, 0, 16, 1, 0, 4);
@@ -65,7 +63,7 @@ public final class CluesTest {
     }
 
     private static void kinds() {
-        DoorSold x = Due.in(ALL);
+        DoorSold x = Due.in(Due.ALL_KINDS);
         dueKinds(x, 5, 1 + 2 + 8 + 32, 0, 1, 2);
         dueKinds(x, 5, 1 + 2 + 8 + 32, 6, 1, 2);
         dueKinds(x, 5, 1 + 2, 2, 1, 2);

@@ -1,8 +1,6 @@
 /** Promises 14 to 22: road, stay, go, buy, sell, set, undo, keep, on. */
 public final class DeedsTest {
     private static final int NOTHING = 1;
-    /** A door of each kind. */
-    private static final String ALL = "n640 d039 u145 b209 k354 s247 c125";
 
     public static void main(String[] args) {
         road();
@@ -137,7 +135,7 @@ public final class DeedsTest {
     private static void set() {
         DoorSold x = new DoorSold();
         Due.due("set(0) without DOORS", x.set(0), DoorSold.BAD);
-        Due.enter(x, ALL);
+        Due.enter(x, Due.ALL_KINDS);
         Due.due("set(6)", x.set(6), DoorSold.BAD);
         Due.due("set(-1)", x.set(-1), DoorSold.BAD);
         Due.due("set(1), not BOUGHT", x.set(1), DoorSold.STATE);
@@ -153,7 +151,7 @@ public final class DeedsTest {
     }
 
     private static void setEachKind() {
-        DoorSold x = Due.in(ALL);
+        DoorSold x = Due.in(Due.ALL_KINDS);
         for (int i = 0; i < 6; i++) x.buy(i);
         for (int r = 0; r < 5; r++) x.road();
         int[] at = {5, 5, 2, 5, 2, 2};
@@ -213,7 +211,7 @@ public final class DeedsTest {
     }
 
     private static DoorSold afterFirst(int n) {
-        DoorSold x = Due.in(ALL);
+        DoorSold x = Due.in(Due.ALL_KINDS);
         if (n > 0) Due.due("buy(5)", x.buy(5), 35);
         if (n > 1) Due.due("buy(2)", x.buy(2), 31);
         if (n > 2) Due.due("go(2)", x.go(2), 2);
@@ -236,7 +234,7 @@ public final class DeedsTest {
         Due.due("on(3)", x.on(3), DoorSold.BAD);
         Due.due("on(-1)", x.on(-1), DoorSold.BAD);
         Due.finds(x, "on(0)", () -> x.on(0), NOTHING);
-        Due.enter(x, ALL);
+        Due.enter(x, Due.ALL_KINDS);
         Due.due("keep(2) without DEEDS", x.keep(2), 0);
         x.buy(1);
         x.set(1);

@@ -1,8 +1,6 @@
 /** Promises 12 and 13: door, mark. */
 public final class DoorsTest {
     private static final int UNLIKE = 3;
-    /** A door of each kind. */
-    private static final String ALL = "n640 d039 u145 b209 k354 s247 c125";
 
     public static void main(String[] args) {
         facts();
@@ -25,7 +23,7 @@ public final class DoorsTest {
     }
 
     private static void facts() {
-        DoorSold x = Due.in(ALL);
+        DoorSold x = Due.in(Due.ALL_KINDS);
         dueFacts(x, 0, 0, 0, 3, 9, 0, 1, 1, 0);
         dueFacts(x, 1, 1, 1, 4, 5, 1, 1, 2, 0);
         dueFacts(x, 2, 2, 2, 0, 4, 0, 1, 1, 0);
@@ -38,7 +36,7 @@ public final class DoorsTest {
     }
 
     private static void factsByHours() {
-        DoorSold x = Due.in(ALL);
+        DoorSold x = Due.in(Due.ALL_KINDS);
         for (int hour = 0; hour < 14; hour++) {
             int even = hour % 2 == 0 ? 1 : 0;
             dueFacts(x, 0, 0, 0, 3, 9, 0, 1, 1, 0);
@@ -72,7 +70,7 @@ public final class DoorsTest {
     }
 
     private static void marksOfDutchOnes() {
-        DoorSold x = Due.in(ALL);
+        DoorSold x = Due.in(Due.ALL_KINDS);
         int[] want = {5, 3, 4, 4, 4, 3, 5};
         for (int hour = 0; hour < want.length; hour++) {
             Due.due("mark(1, 1) in HOUR " + hour, x.mark(1, 1), want[hour]);
@@ -93,7 +91,7 @@ public final class DoorsTest {
     }
 
     private static void marksOfBrickedOnes() {
-        DoorSold x = Due.in(ALL);
+        DoorSold x = Due.in(Due.ALL_KINDS);
         int[] want = {0, 2, 1, 0, 2, 1, 0};
         for (int hour = 0; hour < want.length; hour++) {
             Due.due("mark(3, 3) in HOUR " + hour, x.mark(3, 3), want[hour]);
@@ -124,7 +122,7 @@ public final class DoorsTest {
     private static void markRefused() {
         DoorSold x = new DoorSold();
         Due.due("mark(0, 1) without DOORS", x.mark(0, 1), DoorSold.BAD);
-        Due.enter(x, ALL);
+        Due.enter(x, Due.ALL_KINDS);
         boolean[][] is = {
             {false, false, false, false, false},
             {true, false, false, false, false},

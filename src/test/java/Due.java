@@ -1,5 +1,8 @@
 /** What the tests share: answers are compared with what is due, and a test ends with exit code 1 if one differs. */
 final class Due {
+    /** A country with a door of each kind. */
+    static final String ALL_KINDS = "n640 d039 u145 b209 k354 s247 c125";
+
     private static int asked = 0;
     private static int wrong = 0;
 
@@ -37,6 +40,15 @@ final class Due {
     static DoorSold in(String country) {
         DoorSold x = new DoorSold();
         enter(x, country);
+        return x;
+    }
+
+    /** A new object there, by which the first doors are bought. */
+    static DoorSold owning(String country, int doors) {
+        DoorSold x = in(country);
+        for (int i = 0; i < doors; i++) {
+            if (x.buy(i) < 0) throw new IllegalArgumentException("too dear: " + country);
+        }
         return x;
     }
 

@@ -1,8 +1,5 @@
 /** Promises 23 to 25: where, soonest, way. */
 public final class WaysTest {
-    /** A door of each kind. */
-    private static final String ALL = "n640 d039 u145 b209 k354 s247 c125";
-
     public static void main(String[] args) {
         whereByRoads();
         whereByDoors();
@@ -16,14 +13,8 @@ public final class WaysTest {
         Due.end();
     }
 
-    private static DoorSold withAll(String country, int doors) {
-        DoorSold x = Due.in(country);
-        for (int i = 0; i < doors; i++) x.buy(i);
-        return x;
-    }
-
     private static void whereByRoads() {
-        DoorSold x = Due.in(ALL);
+        DoorSold x = Due.in(Due.ALL_KINDS);
         for (int n = 0; n <= 30; n++) {
             int roads = Math.min(5, n / 3);
             Due.due("where(" + n + ") by roads", x.where(n), (1 << roads + 1) - 1);
@@ -37,21 +28,21 @@ public final class WaysTest {
     }
 
     private static void whereByDoors() {
-        DoorSold x = withAll("n700 u050", 1);
+        DoorSold x = Due.owning("n700 u050", 1);
         Due.due("where(1) by a DUTCH one", x.where(1), 1);
         Due.due("where(2) by a DUTCH one", x.where(2), 1 + 32);
         x.stay();
         Due.due("where(2) in an odd HOUR", x.where(2), 1);
         Due.due("where(3) in an odd HOUR", x.where(3), 1 + 2 + 32);
-        x = withAll("n701 k050", 1);
+        x = Due.owning("n701 k050", 1);
         Due.due("where(1) by a BRICKED one", x.where(1), 1 + 32);
         x.stay();
         Due.due("where(2) in HOUR 1", x.where(2), 1);
         Due.due("where(3) in HOUR 1", x.where(3), 1 + 2 + 32);
-        x = withAll("n700 c250", 1);
+        x = Due.owning("n700 c250", 1);
         Due.due("where(6) by a CART", x.where(6), 1 + 2 + 4);
         Due.due("where(7) by a CART met in PLACE 1", x.where(7), 1 + 2 + 4 + 32);
-        x = withAll("n703 s500", 1);
+        x = Due.owning("n703 s500", 1);
         Due.due("where(2) by a STUDY", x.where(2), 1);
         Due.due("where(3) by a STUDY", x.where(3), 1 + 2 + 32);
         x = Due.in("n700 d050");
@@ -62,7 +53,7 @@ public final class WaysTest {
         DoorSold x = new DoorSold();
         Due.due("where(0) without DOORS", x.where(0), DoorSold.STATE);
         Due.due("where(31) without DOORS", x.where(31), DoorSold.BAD);
-        Due.enter(x, ALL);
+        Due.enter(x, Due.ALL_KINDS);
         Due.due("where(31)", x.where(31), DoorSold.BAD);
         Due.due("where(-1)", x.where(-1), DoorSold.BAD);
     }
@@ -74,12 +65,12 @@ public final class WaysTest {
         Due.told(x, "soonest(6) by a DOOR", x.soonest(6), 1, 2);
         Due.told(x, "soonest(5) by a DOOR", x.soonest(5), 15, 7);
         Due.told(x, "soonest(1) by a DOOR", x.soonest(1), 3, 3);
-        x = withAll("n700 c250", 1);
+        x = Due.owning("n700 c250", 1);
         Due.told(x, "soonest(5) by a CART met in PLACE 1", x.soonest(5), 7, 4);
         x.road();
         Due.told(x, "soonest(5) from HOUR 3", x.soonest(5), 4, 3);
         Due.told(x, "soonest(0) from PLACE 1", x.soonest(0), 10, 7);
-        x = withAll("n700 u030 d350", 2);
+        x = Due.owning("n700 u030 d350", 2);
         Due.told(x, "soonest(5) by two", x.soonest(5), 3, 4);
     }
 
@@ -106,26 +97,26 @@ public final class WaysTest {
         x.buy(0);
         dueWay(x, 6, 0);
         dueWay(x, 1, 6);
-        x = withAll("n700 c250", 1);
+        x = Due.owning("n700 c250", 1);
         dueWay(x, 5, 6, 7, 7, 7, 0);
-        x = withAll("n700 u030 d350", 2);
+        x = Due.owning("n700 u030 d350", 2);
         dueWay(x, 5, 0, 1);
         x.stay();
         dueWay(x, 5, 7, 0, 1);
     }
 
     private static void wayIsTheFirstByNumbers() {
-        dueWay(withAll("n700 d050 d050", 2), 5, 0);
-        dueWay(withAll("n700 d140 d340 d030 d010", 4), 4, 2, 1);
-        DoorSold x = withAll("n700 d000 u050", 2);
+        dueWay(Due.owning("n700 d050 d050", 2), 5, 0);
+        dueWay(Due.owning("n700 d140 d340 d030 d010", 4), 4, 2, 1);
+        DoorSold x = Due.owning("n700 d000 u050", 2);
         dueWay(x, 5, 1);
         x.stay();
         dueWay(x, 5, 0, 1);
         x.sell(0);
         dueWay(x, 5, 7, 1);
-        dueWay(withAll("n700 d100 d010 d150", 3), 5, 1, 2);
-        dueWay(withAll("n709 s300 d140 d340", 3), 4, 0, 2);
-        dueWay(withAll("n709 d140 d340", 2), 4, 6, 0);
+        dueWay(Due.owning("n700 d100 d010 d150", 3), 5, 1, 2);
+        dueWay(Due.owning("n709 s300 d140 d340", 3), 4, 0, 2);
+        dueWay(Due.owning("n709 d140 d340", 2), 4, 6, 0);
     }
 
     private static void wayRefused() {
@@ -142,7 +133,7 @@ public final class WaysTest {
     }
 
     private static void looksOnly() {
-        DoorSold x = withAll(ALL, 6);
+        DoorSold x = Due.owning(Due.ALL_KINDS, 6);
         x.stay();
         long before = x.digest();
         x.where(30);
