@@ -11,6 +11,7 @@ public final class TextsTest {
         faultRefused();
         country();
         countryAnew();
+        aSmallerCountryBehindAGreaterOne();
         Due.end();
     }
 
@@ -173,5 +174,23 @@ public final class TextsTest {
         Due.told(x, "AT as in the text", x.door(0, 1), 1, 0);
         Due.finds(x, "on(0)", () -> x.on(0), NOTHING);
         Due.due("nothing to undo", x.undo(0), 0);
+    }
+
+    /** What the greater one had is gone: all is answered as by an object that never was there. */
+    private static void aSmallerCountryBehindAGreaterOne() {
+        DoorSold x = Due.owning("n799 d010 d021 d036 d151 d320 d231", 6);
+        x.road();
+        Due.enter(x, "n401 d119");
+        DoorSold y = Due.in("n401 d119");
+        Due.due("digest()", x.digest(), y.digest());
+        Due.due("faces()", x.faces(), y.faces());
+        Due.due("where(9)", x.where(9), y.where(9));
+        for (int p = 0; p < 4; p++) {
+            Due.due("round(" + p + ")", x.round(p), y.round(p));
+            Due.due("cheapest(" + p + ", 4)", x.cheapest(p, 4), y.cheapest(p, 4));
+            for (int c = 0; c < 4; c++) Due.due("chase(" + p + ", " + c + ", 6)", x.chase(p, c, 6), y.chase(p, c, 6));
+        }
+        Due.due("door(1, 0)", x.door(1, 0), DoorSold.BAD);
+        Due.due("chase(0, 1, 6) round the ring", x.chase(0, 1, 6), DoorSold.NONE);
     }
 }
