@@ -1,3 +1,7 @@
+import java.lang.reflect.InvocationTargetException;
+import java.lang.reflect.Method;
+import java.util.Arrays;
+
 /** What the tests share: answers are compared with what is due, and a test ends with exit code 1 if one differs. */
 final class Due {
     /** A country with a door of each kind. */
@@ -28,6 +32,26 @@ final class Due {
         due(call, made.getAsInt(), DoorSold.FINDING);
         due(call + ", finding()", x.finding(), finding);
         due(call + ", findings(" + finding + ")", x.findings(finding), before + 1);
+    }
+
+    /** What an object answers to a call that is told by its name. */
+    static long answer(Object of, String name, int... args) {
+        Class<?>[] types = new Class<?>[args.length];
+        Arrays.fill(types, int.class);
+        try {
+            Method m = of.getClass().getDeclaredMethod(name, types);
+            m.setAccessible(true);
+            return ((Number) m.invoke(of, Arrays.stream(args).boxed().toArray())).longValue();
+        } catch (InvocationTargetException e) {
+            throw new IllegalStateException(said(name, args) + " threw", e.getCause());
+        } catch (ReflectiveOperationException e) {
+            throw new IllegalArgumentException("no call: " + said(name, args), e);
+        }
+    }
+
+    static String said(String name, int... args) {
+        String list = Arrays.toString(args);
+        return name + "(" + list.substring(1, list.length() - 1) + ")";
     }
 
     /** Writes a text, sign by sign. */

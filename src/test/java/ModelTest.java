@@ -1,6 +1,4 @@
-import java.lang.reflect.InvocationTargetException;
 import java.lang.reflect.Method;
-import java.util.Arrays;
 import java.util.HashMap;
 import java.util.Map;
 import java.util.Random;
@@ -22,7 +20,7 @@ public final class ModelTest {
         this.tally = tally;
     }
 
-    public static void main(String[] args) throws ReflectiveOperationException {
+    public static void main(String[] args) {
         Map<String, Integer> tally = new HashMap<>();
         for (int run = 0; run < RUNS; run++) new ModelTest(run, tally).run();
         everyCallWasAnswered(tally);
@@ -37,7 +35,7 @@ public final class ModelTest {
         }
     }
 
-    private void run() throws ReflectiveOperationException {
+    private void run() {
         if (chance.nextInt(10) > 0) writeCountry(false);
         while (calls < CALLS) {
             int kind = chance.nextInt(100);
@@ -73,7 +71,7 @@ public final class ModelTest {
         return index(Math.max(1, model.count(0)));
     }
 
-    private void anyCall() throws ReflectiveOperationException {
+    private void anyCall() {
         switch (chance.nextInt(43)) {
             case 0: call("row", index(6), index(chance.nextBoolean() ? 41 : 5)); break;
             case 1: call("lay", index(6), index(5), any()); break;
@@ -120,7 +118,7 @@ public final class ModelTest {
         }
     }
 
-    private void writeCountry(boolean spoilt) throws ReflectiveOperationException {
+    private void writeCountry(boolean spoilt) {
         String signs = countryByChance();
         if (spoilt) signs = spoil(signs);
         int t = chance.nextInt(4);
@@ -160,7 +158,7 @@ public final class ModelTest {
     }
 
     /** Triples that a door may have been gone through by, one of them at times not. */
-    private void writeClues() throws ReflectiveOperationException {
+    private void writeClues() {
         if (model.count(0) == 0) return;
         int i = chance.nextInt(model.count(0));
         int r = chance.nextInt(6);
@@ -187,12 +185,12 @@ public final class ModelTest {
         call("kinds", i, r);
     }
 
-    private void call(String name, int... args) throws ReflectiveOperationException {
+    private void call(String name, int... args) {
         if (calls >= CALLS) return;
         calls++;
-        long want = answer(model, name, args);
-        long got = answer(real, name, args);
-        String said = name + Arrays.toString(args);
+        long want = Due.answer(model, name, args);
+        long got = Due.answer(real, name, args);
+        String said = Due.said(name, args);
         Due.due(said, got, want);
         if (want >= 0 || want == DoorSold.NONE || args.length == 0) tally.merge(name, 1, Integer::sum);
         Due.due(said + ", then asked()", real.asked(), model.asked());
@@ -200,21 +198,5 @@ public final class ModelTest {
         Due.due(said + ", then lower()", real.lower(), model.lower());
         Due.due(said + ", then finding()", real.finding(), model.finding());
         Due.due(said + ", then digest()", real.digest(), model.digest());
-    }
-
-    private static long answer(Object of, String name, int... args) throws ReflectiveOperationException {
-        Class<?>[] types = new Class<?>[args.length];
-        Object[] boxed = new Object[args.length];
-        for (int a = 0; a < args.length; a++) {
-            types[a] = int.class;
-            boxed[a] = args[a];
-        }
-        Method m = of.getClass().getDeclaredMethod(name, types);
-        m.setAccessible(true);
-        try {
-            return ((Number) m.invoke(of, boxed)).longValue();
-        } catch (InvocationTargetException e) {
-            throw new IllegalStateException(name + Arrays.toString(args) + " threw", e.getCause());
-        }
     }
 }
