@@ -145,7 +145,8 @@ final class ClueEdges {
 
     /** From 0 one comes anywhere by the DOOR and the ROAD, so a collector there has him by his first turn. */
     private static void chaseByDoors() {
-        Edge.of(33, "each stays, or goes through a DOOR (BOUGHT or not, as if it was OPEN, in this HOUR), or by the ROAD.");
+        Edge.of(33, "each stays, or goes through a DOOR (BOUGHT or not, as if it was OPEN, in this HOUR), or by the "
+            + "ROAD.");
         for (int h = 0; h <= 4; h++) {
             Edge.due(Edge.after(h, "n300d020"), 2, "chase", 2, 0, 2);
             Edge.due(Edge.after(h, "n300u020"), 2, "chase", 1, 0, 2);
@@ -154,6 +155,7 @@ final class ClueEdges {
             Edge.due(Edge.after(h, "n300c020"), h % 3 == 0 ? 2 : Edge.NONE, "chase", 1, 0, 2);
         }
         Edge.due(Due.in("n300d000"), Edge.NONE, "chase", 1, 0, 6);
+        for (int p = 1; p < 7; p++) Edge.due(Due.in("n700 d010 d020 d030 d040 d050 d060"), 2, "chase", p, 0, 6);
         Edge.of(33, "the collector wanting soon, the smuggler late.");
         Edge.due(Due.in("n300 d210 d100"), 4, "chase", 1, 0, 6);
         Edge.due(Due.in("n300 d210 d100"), 2, "chase", 0, 1, 6);

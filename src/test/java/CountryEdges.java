@@ -51,6 +51,7 @@ final class CountryEdges {
         Edge.due(written("n200d000"), 1, "country", 1);
         Edge.due(written("n200d000d000d000d000d000d000"), 6, "country", 1);
         x = Edge.busy();
+        Edge.due(x, 63, "where", 30);
         Due.enter(x, "n200d119");
         Edge.due(x, 2, "count", 1);
         Edge.due(x, Edge.BAD, "door", 1, 0);
@@ -65,10 +66,9 @@ final class CountryEdges {
         Edge.finds(Edge::busy, Edge.NOTHING, "country", 3);
         Edge.of(11, "STATE: a FAULT.");
         Edge.refuses(Edge::busy, Edge.STATE, "country", 2);
-        for (String signs : new String[] {"", " ", "x", "n200", "n100d000", "n800d000", "n200d020", "n200d00", "n200 d00 0",
-            "n200d000d000d000d000d000d000d000"}) {
-            Edge.refuses(() -> written(signs), Edge.STATE, "country", 1);
-        }
+        String[] faulty = {"", " ", "x", "n200", "n100d000", "n800d000", "n200d020", "n200d00", "n200 d00 0",
+            "n200d000d000d000d000d000d000d000"};
+        for (String signs : faulty) Edge.refuses(() -> written(signs), Edge.STATE, "country", 1);
         Edge.of(11, "(STATE behind NOTHING.)");
         Edge.finds(DoorSold::new, Edge.NOTHING, "country", 0);
         Edge.finds(() -> written("x"), Edge.NOTHING, "country", 0);

@@ -33,11 +33,7 @@ final class DeedEdges {
     }
 
     private static Supplier<DoorSold> in(String country, int bought, int waiting) {
-        return () -> {
-            DoorSold x = Due.owning(country, bought);
-            for (int h = 0; h < waiting; h++) x.stay();
-            return x;
-        };
+        return () -> Edge.withDeeds(bought + waiting, country, bought);
     }
 
     /** The call is still done as the last of 40 DEEDS, and refused behind it. */
@@ -242,8 +238,8 @@ final class DeedEdges {
     /** AT and LEADS of a DOOR and of a BACK one, PLACE and PURSE: from the last DEED back to none. */
     private static void undoneOneByOne() {
         DoorSold x = moved();
-        int[][] before = {{1, 2, 2, 1, 0, 9}, {1, 2, 2, 1, 0, 9}, {1, 2, 2, 1, 0, 9}, {0, 2, 2, 1, 0, 9}, {0, 2, 2, 0, 0, 9},
-            {0, 2, 2, 0, 1, 9}};
+        int[][] before = {{1, 2, 2, 1, 0, 9}, {1, 2, 2, 1, 0, 5}, {1, 2, 2, 1, 0, 4}, {0, 2, 2, 1, 0, 4},
+            {0, 2, 2, 0, 0, 4}, {0, 2, 2, 0, 1, 4}};
         for (int n = before.length - 1; n >= 0; n--) {
             Edge.due(x, 1, "undo", n);
             dueStanding(x, before[n]);
@@ -252,7 +248,7 @@ final class DeedEdges {
 
     /** With 6 DEEDS: both bought, both set up in PLACE 0, then the ROAD, one sold. */
     private static DoorSold moved() {
-        DoorSold x = Due.owning("n309 d120 b210", 2);
+        DoorSold x = Due.owning("n309 d124 b213", 2);
         x.set(0);
         x.set(1);
         x.road();
@@ -297,9 +293,9 @@ final class DeedEdges {
         x.undo(1);
         for (int d = 1; d < 40; d++) x.stay();
         Edge.due(x, 6, "on", 1);
-        dueStanding(x, 0, 2, 2, 0, 1, 9);
+        dueStanding(x, 0, 2, 2, 0, 1, 4);
         Edge.due(x, 3, "undo", 3);
-        dueStanding(x, 0, 2, 2, 1, 0, 9);
+        dueStanding(x, 0, 2, 2, 1, 0, 4);
         Edge.due(x, 3, "undo", 0);
         dueStanding(x, 1, 2, 2, 1, 0, 9);
         Edge.due(x, 6, "on", 1);

@@ -23,11 +23,13 @@ final class Edge {
     static final int TERMS = 0;
 
     private static final Path DOCUMENT = Path.of("../shared/DOC.md");
+    /** Where the document is not at hand the cases are tested all the same, but their words can't be compared. */
+    private static final boolean THERE = Files.isRegularFile(DOCUMENT);
     private static final Pattern PROMISE = Pattern.compile("## Promise (\\d+): .*");
+    /** Words that name a boundary case. */
     private static final Pattern CASE = Pattern.compile("BAD|FULL|STATE|SPENT|NONE|NOTHING|BEYOND|UNLIKE|NOUGHT|SIZE"
-        + "|\\w \\.\\. \\w|\\babove\\b|\\bbelow\\b|at (least|most|first)|\\bcut\\b|\\banew\\b|\\bmissing\\b|\\bbefore\\b"
-        + "|\\bround the ring\\b|: now\\b|\\blast one\\b|or (fewer|sooner)|\\btoo early\\b|\\balone\\b|\\bno DOOR\\b"
-        + "|BOUGHT or not|\\bin this HOUR\\b|\\baside\\b|\\bmodulo\\b");
+        + "|\\w \\.\\. \\w|\\b(above|below|cut|anew|missing|before|alone|aside|modulo)\\b|at (least|most|first)"
+        + "|or (fewer|sooner)|round the ring|last one|too early|: now|no DOOR|BOUGHT or not|in this HOUR");
 
     private static final Map<Integer, String> words = new TreeMap<>();
     private static final List<String> quoted = new ArrayList<>();
@@ -42,7 +44,7 @@ final class Edge {
     static void of(int promise, String quote) {
         endOfQuote();
         about = (promise == TERMS ? "terms" : "promise " + promise) + ", '" + quote + "': ";
-        Due.due(about + "stands in the document", wordsOf(promise).contains(quote) ? 1 : 0, 1);
+        if (THERE) Due.due(about + "stands in the document", wordsOf(promise).contains(quote) ? 1 : 0, 1);
         quoted.add(quote);
         quotedOf.add(promise);
         answers = 0;
@@ -153,9 +155,7 @@ final class Edge {
 
     /** In the country, after so many HOURS of WAITING, all DOORS not BOUGHT. */
     static DoorSold after(int waiting, String country) {
-        DoorSold x = Due.in(country);
-        for (int h = 0; h < waiting; h++) x.stay();
-        return x;
+        return withDeeds(waiting, country, 0);
     }
 
     /** In the country, the first DOORS BOUGHT, then WAITING until there are so many DEEDS. */
@@ -169,6 +169,10 @@ final class Edge {
     static void end() {
         endOfQuote();
         about = "";
+        if (!THERE) {
+            System.out.println("without " + DOCUMENT + ": no words are compared");
+            return;
+        }
         for (int promise : words.keySet()) {
             Matcher left = CASE.matcher(unquoted(promise));
             while (left.find()) Due.due("promise " + promise + " names a case without a test: " + left.group(), 1, 0);

@@ -25,9 +25,9 @@ final class TermEdges {
     }
 
     private static void refusalsInOrder() {
-        Edge.of(Edge.TERMS, "Refused is, the first of these that fits, in this order: BAD -1 (a number that is none, or not "
-            + "as told), FULL -2, STATE -4 (not now), SPENT -6 (more than told), FINDING -3 (finding() tells which), unless "
-            + "a call says so otherwise.");
+        Edge.of(Edge.TERMS, "Refused is, the first of these that fits, in this order: BAD -1 (a number that is none, "
+            + "or not as told), FULL -2, STATE -4 (not now), SPENT -6 (more than told), FINDING -3 (finding() tells "
+            + "which), unless a call says so otherwise.");
         Edge.refuses(DoorSold::new, -1, "row", 6, -1);
         Edge.refuses(DoorSold::new, -1, "where", 31);
         Edge.refuses(DoorSold::new, -1, "keep", 3);
@@ -43,10 +43,12 @@ final class TermEdges {
 
     private static void refusedChangesNothing() {
         Edge.of(Edge.TERMS, "What is refused changes nothing but finding(), findings().");
-        String[] calls = {"row", "lay", "at", "tear", "copy", "mean", "text", "put", "fault", "country", "door", "mark", "go",
-            "buy", "sell", "set", "undo", "keep", "on", "where", "soonest", "way", "cheapest", "shut", "worth", "fits",
-            "kinds", "round", "chase", "odds", "mid", "lots", "count", "findings"};
-        int[] numbers = {2, 3, 2, 1, 5, 1, 2, 3, 1, 1, 2, 2, 1, 1, 1, 1, 1, 1, 1, 1, 1, 2, 2, 2, 2, 2, 2, 1, 3, 3, 2, 2, 1, 1};
+        String[] calls = {"row", "lay", "at", "tear", "copy", "mean", "text", "put", "fault", "country", "door", "mark",
+            "go", "buy", "sell", "set", "undo", "keep", "on", "where", "soonest", "way", "cheapest", "shut", "worth",
+            "fits", "kinds", "round", "chase", "odds", "mid", "lots", "count", "findings"};
+        int[] numbers = {2, 3, 2, 1, 5, 1, 2, 3, 1, 1, 2, 2,
+            1, 1, 1, 1, 1, 1, 1, 1, 1, 2, 2, 2, 2,
+            2, 2, 1, 3, 3, 2, 2, 1, 1};
         for (int c = 0; c < calls.length; c++) {
             for (int v : new int[] {Edge.LEAST, -1, 61, Edge.MOST}) {
                 int[] args = new int[numbers[c]];
@@ -185,7 +187,8 @@ final class TermEdges {
     }
 
     private static void faults() {
-        Edge.of(Edge.TERMS, "(a letter, a figure that is none such, a PLACE that there is not, a seventh DOOR: its place;");
+        Edge.of(Edge.TERMS, "(a letter, a figure that is none such, a PLACE that there is not, a seventh DOOR: its "
+            + "place;");
         for (char letter = 'a'; letter <= 'z'; letter++) {
             dueFault("n200d000" + letter + "000", "dubksc".indexOf(letter) >= 0 ? Edge.NONE : 8);
         }
@@ -236,7 +239,8 @@ final class TermEdges {
             Edge.told(Edge.after(h, "n200c100"), 1, (1 + h) % 2, "door", 0, 4);
         }
         Edge.told(Edge.after(40, "n700c600"), 1, 4, "door", 0, 4);
-        Edge.of(Edge.TERMS, "a DUTCH one (CART, too) in HOURS of an even number; a BRICKED one in HOURS that 3 divides.");
+        Edge.of(Edge.TERMS, "a DUTCH one (CART, too) in HOURS of an even number; a BRICKED one in HOURS that 3 "
+            + "divides.");
         for (int h = 0; h <= 7; h++) {
             DoorSold x = Edge.after(h, "n200u000c000k000");
             for (int i = 0; i < 2; i++) Edge.told(x, 1, h % 2 == 0 ? 1 : 0, "door", i, 5);
@@ -245,8 +249,8 @@ final class TermEdges {
     }
 
     private static void hours() {
-        Edge.of(Edge.TERMS, "It takes 1 HOUR; of a DUTCH one 2; of a CART 1 less than of a DUTCH one; of a STUDY 2 more than "
-            + "of a BACK one.");
+        Edge.of(Edge.TERMS, "It takes 1 HOUR; of a DUTCH one 2; of a CART 1 less than of a DUTCH one; of a STUDY 2 "
+            + "more than of a BACK one.");
         int[] hours = {1, 2, 1, 1, 3, 1};
         String[] doors = {"d010", "u010", "b100", "k010", "s100", "c010"};
         for (int kind = 0; kind < 6; kind++) {
@@ -258,7 +262,8 @@ final class TermEdges {
     }
 
     private static void costs() {
-        Edge.of(Edge.TERMS, "of a BACK one half of it (cut); of a STUDY 3 more than of a BACK one; of a BRICKED one 1.");
+        Edge.of(Edge.TERMS, "of a BACK one half of it (cut); of a STUDY 3 more than of a BACK one; of a BRICKED one "
+            + "1.");
         for (int price = 0; price <= 9; price++) {
             DoorSold x = Due.in("n200b00" + price + "s00" + price + "k00" + price);
             Edge.told(x, 1, price / 2, "door", 0, 3);
@@ -333,6 +338,9 @@ final class TermEdges {
             Edge.due(Edge.withDeeds(1 + h, "n701k050", 1), 1 + bricked, "soonest", 5);
             Edge.due(Edge.withDeeds(1 + h, "n700u050", 1), 2 + h % 2, "soonest", 5);
         }
+        Edge.due(Due.owning("n700c250", 1), 7, "soonest", 5);
+        Edge.due(Edge.withDeeds(7, "n700c250", 1), 7, "soonest", 5);
+        Edge.due(Edge.withDeeds(13, "n700c250", 1), 1, "soonest", 5);
     }
 
     private static void calls() {

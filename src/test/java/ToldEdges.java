@@ -19,7 +19,8 @@ final class ToldEdges {
         Edge.of(37, "0 before.");
         Edge.due(new DoorSold(), 0, "asked");
         Edge.due(Due.owning("n200d000", 1), 0, "asked");
-        Edge.of(37, "What the latest lay(), at(), mean(), door(), soonest(), cheapest(), shut(), fits(), round(), faces()");
+        Edge.of(37, "What the latest lay(), at(), mean(), door(), soonest(), cheapest(), shut(), fits(), round(), "
+            + "faces()");
         DoorSold x = Due.owning("n799 d050 d500 u027", 1);
         Due.lay(x, 0, 70, 5, 6);
         Edge.told(x, 1, 70, "lay", 0, 0, 80);

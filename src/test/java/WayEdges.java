@@ -6,13 +6,13 @@ final class WayEdges {
     static void all() {
         where();
         soonest();
-        way();
         wayAnew();
+        wayRefused();
         cheapest();
         cheapestOfAsCheapOnes();
-        cheapestRefused();
+        refused(26, "cheapest");
         shut();
-        shutRefused();
+        refused(27, "shut");
         worth();
     }
 
@@ -81,12 +81,13 @@ final class WayEdges {
         dueWay(Edge.withDeeds(3, "n700 u050 d000", 2), 5, 1, 0);
         dueWay(Edge.withDeeds(2, "n700 u050", 1), 5, 7, 0);
         dueWay(Due.in("n700d000"), 6, 6, 6, 6, 6, 6, 6);
+        dueWay(Due.owning("n700d000", 1), 1, 6);
         dueWay(Due.owning("n700 c150", 1), 5, 7, 7, 7, 7, 7, 7, 0);
         dueWay(Due.owning("n700 d000 c150", 2), 5, 0, 0, 0, 0, 0, 0, 1);
         dueWay(Due.owning("n700 d110 d110 d110 d110 d110 d050", 6), 5, 5);
     }
 
-    private static void way() {
+    private static void wayRefused() {
         Edge.of(25, "BAD.");
         Edge.bounds(WayEdges::small, 0, 0, 2, "way", 0, 1);
         Edge.bounds(Edge::busy, 0, 0, 5, "way", 0, 1);
@@ -128,13 +129,6 @@ final class WayEdges {
         Edge.told(x, 0, 0, "cheapest", 3, 1);
     }
 
-    private static void cheapestRefused() {
-        Edge.of(26, "BAD.");
-        Edge.bounds(WayEdges::small, 0, 0, 2, "cheapest", 0, 5);
-        Edge.bounds(Edge::busy, 1, 0, 30, "cheapest", 0, 5);
-        Edge.refuses(DoorSold::new, Edge.BAD, "cheapest", 0, 0);
-    }
-
     private static void shut() {
         Edge.of(27, "one can't be at a PLACE in n HOURS, nor sooner;");
         DoorSold x = Due.owning("n700 d050", 1);
@@ -156,11 +150,13 @@ final class WayEdges {
         Edge.told(Due.owning("n700 d010 d010 d150", 3), 1, 4, "shut", 5, 2);
     }
 
-    private static void shutRefused() {
-        Edge.of(27, "BAD.");
-        Edge.bounds(WayEdges::small, 0, 0, 2, "shut", 0, 5);
-        Edge.bounds(Edge::busy, 1, 0, 30, "shut", 0, 5);
-        Edge.refuses(DoorSold::new, Edge.BAD, "shut", 0, 0);
+    /** What cheapest() and shut() refuse alike: a PLACE, HOURS that are none. */
+    private static void refused(int promise, String name) {
+        Edge.of(promise, "BAD.");
+        Edge.bounds(WayEdges::small, 0, 0, 2, name, 0, 5);
+        Edge.bounds(Edge::busy, 0, 0, 5, name, 0, 5);
+        Edge.bounds(Edge::busy, 1, 0, 30, name, 0, 5);
+        Edge.refuses(DoorSold::new, Edge.BAD, name, 0, 0);
     }
 
     private static void worth() {
